@@ -384,14 +384,9 @@ public final class TrackRows {
             count++;
         }
 
-        /** Adds a place behind the others, if it is one that may stand there. */
-        boolean follows(int second, int x, int y) {
+        boolean mayFollow(int second, int x, int y) {
             boolean later = count == 0 || second > seconds[count - 1];
-            if (count >= most || !later || !isTellable(second, x, y)) {
-                return false;
-            }
-            insert(count, second, x, y);
-            return true;
+            return later && isTellable(second, x, y);
         }
 
         void becomeAs(Places other) {
@@ -460,7 +455,8 @@ public final class TrackRows {
 
         boolean fits(int number, int second, int trueSecond) {
             boolean behindEarlier = number == 0 || times[number - 1] < trueSecond;
-            boolean beforeLater = number >= count || seconds[number] > second && times[number] > trueSecond;
+            boolean beforeLater = number >= count
+                    || (seconds[number] > second && times[number] > trueSecond);
             return behindEarlier && beforeLater;
         }
 
@@ -608,7 +604,7 @@ public final class TrackRows {
                 boolean startsAbove = ys[k] > y;
                 boolean endsAbove = ys[next] > y;
                 // A side that goes up has the place on its left where it passes, one that goes down on its right.
-                if (startsAbove != endsAbove && endsAbove == turn > 0) {
+                if (startsAbove != endsAbove && endsAbove == (turn > 0)) {
                     odd = !odd;
                 }
             }
@@ -676,15 +672,16 @@ public final class TrackRows {
             int second = 0;
             int x = 0;
             int y = 0;
-            for (int p = 0; next < count; p++) {
+            for (int p = 0; p < MOST_PLACES && next < count; p++) {
                 second += nextDifference();
                 x += nextDifference();
                 y += nextDifference();
-                if (p >= MOST_PLACES || !sound || !places.follows(second, x, y)) {
+                if (!sound || !places.mayFollow(second, x, y)) {
                     return false;
                 }
+                places.insert(p, second, x, y);
             }
-            return true;
+            return next == count;
         }
 
         private int nextDifference() {
@@ -692,7 +689,7 @@ public final class TrackRows {
             for (int k = 0; k < LONGEST_NUMBER && next < count; k++) {
                 int b = row[next];
                 next++;
-                number += (b & 127) << 7 * k;
+                number += (b & 127) << (7 * k);
                 if (b < 128) {
                     // pack() never ends a longer number with a byte of no bits.
                     sound = sound && (b > 0 || k == 0);
@@ -752,7 +749,7 @@ public final class TrackRows {
             long bestSum = sumWith(s, taken, NONE);
             // Backwards, so that of equal sums the first device stays, and any device before none.
             for (int d = deviceCount - 1; d >= 0; d--) {
-                if ((taken & 1 << d) == 0 && weights[s][d] != NONE && sumWith(s, taken, d) <= bestSum) {
+                if ((taken & (1 << d)) == 0 && weights[s][d] != NONE && sumWith(s, taken, d) <= bestSum) {
                     best = d;
                     bestSum = sumWith(s, taken, d);
                 }
@@ -761,7 +758,7 @@ public final class TrackRows {
         }
 
         private long sumWith(int s, int taken, int d) {
-            return d == NONE ? WITHOUT + least[s + 1][taken] : weights[s][d] + least[s + 1][taken | 1 << d];
+            return d == NONE ? WITHOUT + least[s + 1][taken] : weights[s][d] + least[s + 1][taken | (1 << d)];
         }
     }
 }

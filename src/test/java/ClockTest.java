@@ -51,6 +51,9 @@ public final class ClockTest {
         Check.is("in the steep one again", t.time(0, 19), 167);
         Check.is("at the last", t.time(0, 20), 200);
         Check.is("behind the last", t.time(0, 25), 205);
+        t.mark(0, 21, 300);
+        Check.is("at a mark a second later", t.time(0, 21), 300);
+        Check.is("behind it", t.time(0, 22), 301);
     }
 
     private static void besideOthers() {
@@ -59,6 +62,7 @@ public final class ClockTest {
         Check.is("a mark", t.mark(0, 100, 50), 1);
         Check.notTold("the same one again", () -> t.mark(0, 100, 50));
         Check.notTold("same second, later", () -> t.mark(0, 100, 51));
+        Check.notTold("same second, earlier", () -> t.mark(0, 100, 49));
         Check.notTold("later with the same time", () -> t.mark(0, 101, 50));
         Check.notTold("later with a lesser time", () -> t.mark(0, 101, 49));
         Check.notTold("earlier with the same time", () -> t.mark(0, 99, 50));

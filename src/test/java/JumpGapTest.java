@@ -5,7 +5,9 @@ public final class JumpGapTest {
         jumpsByTrueTime();
         gapEdges();
         gapsByTrueTime();
+        placesThatWent();
         couldEdges();
+        couldNearestPoints();
         couldRoundsEachUp();
         couldWrong();
         couldFar();
@@ -98,6 +100,40 @@ public final class JumpGapTest {
         Check.is("north 11000", t.could(0, 1, 0, 11), false);
         t.speed(9);
         Check.is("north 10000, slower", t.could(0, 1, 0, 10), false);
+    }
+
+    private static void placesThatWent() {
+        TrackRows t = new TrackRows();
+        t.device();
+        t.place(0, 0, 0, 0);
+        t.place(0, 1000, 50000, 0);
+        t.feed(0);
+        t.feed(0);
+        t.feed(0);
+        Check.is("jumps before", t.has(0, 3), 1);
+        Check.is("gaps before", t.has(0, 4), 1);
+        Check.is("one place is read", t.read(0), 1);
+        Check.is("jumps", t.has(0, 3), 0);
+        Check.is("gaps", t.has(0, 4), 0);
+        Check.is("jump", t.jump(0, 0), TrackRows.NONE);
+        Check.is("gap", t.gap(0, 0), TrackRows.NONE);
+        Check.noSuch("could", () -> t.could(0, 0, 0, 0));
+    }
+
+    /** At 1 metre a second: the cell's first and last metre in each direction. */
+    private static void couldNearestPoints() {
+        TrackRows t = new TrackRows();
+        t.limit(1);
+        t.speed(1);
+        int[][] at = {{3010, 2500}, {1989, 2500}, {2500, 3010}, {2500, 1989}};
+        for (int d = 0; d < 4; d++) {
+            t.device();
+            t.place(d, 0, at[d][0], at[d][1]);
+            t.place(d, 22, at[d][0], at[d][1]);
+            t.place(d, 43, at[d][0], at[d][1]);
+            Check.is("11 metres and 11 in 22 seconds", t.could(d, 0, 2, 2), true);
+            Check.is("11 metres and 11 in 21 seconds", t.could(d, 1, 2, 2), false);
+        }
     }
 
     private static void couldRoundsEachUp() {

@@ -9,6 +9,8 @@ public final class MatchTest {
         asManyAsCanBe();
         firstOfEqual();
         noneIsLast();
+        noneFirst();
+        matchAlone();
         moreDevices();
         great();
         Check.end();
@@ -142,6 +144,30 @@ public final class MatchTest {
         u.sight(0, 4, 0);
         u.sight(0, 3, 0);
         matches(u, 18, 0, TrackRows.NONE, 1);
+    }
+
+    private static void noneFirst() {
+        TrackRows t = withDevicesAt(0);
+        t.sight(0, 5, 0);
+        t.sight(0, 3, 0);
+        matches(t, 9, TrackRows.NONE, 0);
+        TrackRows u = withDevicesAt(0, 10);
+        u.sight(0, 90, 0);
+        u.sight(0, 1, 0);
+        u.sight(0, 11, 0);
+        matches(u, 2, TrackRows.NONE, 0, 1);
+    }
+
+    private static void matchAlone() {
+        TrackRows t = withDevicesAt(0, 10);
+        t.sight(0, 8, 0);
+        Check.is("match without matched()", t.match(0), 1);
+        t.place(0, 1, 5, 5);
+        t.sight(0, 11, 0);
+        Check.is("match of the first now", t.match(0), 0);
+        Check.is("match of the second", t.match(1), 1);
+        t.mark(0, 0, 50);
+        Check.is("weight by the same place", t.weight(0, 0), 64);
     }
 
     private static void moreDevices() {

@@ -8,6 +8,7 @@ public final class PackTest {
         readsBack();
         refusesWhatPackWouldNotTell();
         refusesNumbers();
+        soundAfterUnsound();
         sixty();
         readKeepsTheRest();
         Check.end();
@@ -175,6 +176,20 @@ public final class PackTest {
         refused(2, 0, 0, 1, 0, 0);
         refused(0, 192, 154, 12, 0, 2, 2, 0);
         refused(0, 0, 191, 154, 12, 2, 0, 1);
+    }
+
+    private static void soundAfterUnsound() {
+        TrackRows t = new TrackRows();
+        t.device();
+        fedAll(t, 128, 0, 0, 0);
+        Check.is("unsound", t.read(0), TrackRows.NONE);
+        fedAll(t, 8, 0, 1);
+        Check.is("sound", t.read(0), 1);
+        Check.is("second", t.at(0, 0, 0), 4);
+        Check.is("y", t.at(0, 0, 2), -1);
+        fedAll(t, 8, 0);
+        Check.is("unsound again", t.read(0), TrackRows.NONE);
+        Check.is("of no bytes", t.read(0), 0);
     }
 
     private static void sixty() {

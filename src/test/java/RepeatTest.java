@@ -4,6 +4,8 @@ public final class RepeatTest {
         alike();
         noOverlap();
         everyPartCounts();
+        northward();
+        placesThatWent();
         firstOfSeveral();
         thirty();
         clockSeconds();
@@ -55,6 +57,29 @@ public final class RepeatTest {
         Check.is("second, x or y differ", t.repeat(0, 1), TrackRows.NONE);
         t.place(0, 51, 6, 6);
         Check.is("as the first", t.repeat(0, 1), 4);
+    }
+
+    private static void northward() {
+        TrackRows t = new TrackRows();
+        t.device();
+        t.place(0, 0, 0, 50);
+        t.place(0, 5, 0, 57);
+        t.place(0, 9, 0, 60);
+        t.place(0, 14, 0, 67);
+        t.place(0, 18, 0, 70);
+        Check.is("by 1", t.repeat(0, 1), 2);
+        Check.is("by 2", t.repeat(0, 2), 2);
+    }
+
+    private static void placesThatWent() {
+        TrackRows t = ofSteps(5, 5, 5, 5);
+        for (int b : new int[] {0, 0, 0, 20, 10, 0}) {
+            t.feed(b);
+        }
+        Check.is("only the first step is read", t.read(0), 2);
+        Check.is("steps of before do not count", t.repeat(0, 1), TrackRows.NONE);
+        t.place(0, 20, 10, 0);
+        Check.is("told again", t.repeat(0, 1), 1);
     }
 
     private static void firstOfSeveral() {

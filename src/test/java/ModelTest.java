@@ -169,7 +169,8 @@ public final class ModelTest {
         int places = pick(0, 1, 2, 5, 20);
         int fed = 0;
         for (int p = 0; p < places; p++) {
-            int[] numbers = {2 * below(pick(2, 60, 2000, 60000)), below(pick(3, 127, 400, 70000)), below(pick(3, 260, 90000))};
+            int[] numbers = {2 * below(pick(2, 60, 2000, 60000)), below(pick(3, 127, 400, 70000)),
+                below(pick(3, 260, 90000))};
             for (int number : numbers) {
                 int rest = number;
                 while (rest > 127) {

@@ -8,7 +8,7 @@ import java.util.List;
 import java.util.Set;
 import java.util.TreeSet;
 
-/** The public face, member by member, and that nothing else can be seen from outside. */
+/** The public face, member by member, that nothing else can be seen from outside, and no static state. */
 public final class FaceTest {
     private static final String I = "IndexOutOfBoundsException";
     private static final String A = "IllegalArgumentException";
@@ -115,11 +115,21 @@ public final class FaceTest {
             int bits = c.getModifiers();
             Check.is(c + " is static", Modifier.isStatic(bits), true);
             Check.is(c + " is hidden", Modifier.isPublic(bits) || Modifier.isProtected(bits), false);
-            Check.is(c + " has few fields", c.getDeclaredFields().length <= 20, true);
-            for (Field f : c.getDeclaredFields()) {
-                boolean changing = Modifier.isStatic(f.getModifiers()) && !Modifier.isFinal(f.getModifiers());
-                Check.is(f + " is no static that changes", changing, false);
+            fewFieldsAndNoStaticState(c);
+        }
+        fewFieldsAndNoStaticState(TrackRows.class);
+    }
+
+    private static void fewFieldsAndNoStaticState(Class<?> c) {
+        int ofAnObject = 0;
+        for (Field f : c.getDeclaredFields()) {
+            if (Modifier.isStatic(f.getModifiers())) {
+                Check.is(f + " never changes", Modifier.isFinal(f.getModifiers()), true);
+                Check.is(f + " is a number", f.getType() == int.class || f.getType() == long.class, true);
+            } else {
+                ofAnObject++;
             }
         }
+        Check.is(c + " has few fields", ofAnObject <= 20, true);
     }
 }
